@@ -26,6 +26,7 @@ public final class ShakenBread {
     private static final int MOST_LOAF = 30;
     private static final int MOST_WALK = 4;
     private static final int MOST_CHANCE = 10;
+    private static final int MOST_RUNS = 1024;
 
     private static final int POLITE = 1;
     private static final int SHY = 2;
@@ -51,6 +52,9 @@ public final class ShakenBread {
     private final Run other;
     private final Trials trials;
     private final Worlds worlds;
+    /** Of which the worlds are known; NONE if any text may have changed behind that. */
+    private int lookedTown;
+    private int lookedBook;
 
     public ShakenBread() {
         told = new Told();
@@ -62,6 +66,7 @@ public final class ShakenBread {
         other = new Run();
         trials = new Trials(plan, base, other);
         worlds = new Worlds(plan, other);
+        forgetWorlds();
     }
 
     // ---- the tape and the texts ----
@@ -97,6 +102,7 @@ public final class ShakenBread {
         if (reader.fault != 0) {
             return NONE;
         }
+        forgetWorlds();
         if (sort == TOWN) {
             told.keepTown(number, reader.town);
         } else {
@@ -134,6 +140,7 @@ public final class ShakenBread {
             return false;
         }
         told.copy(images[k]);
+        forgetWorlds();
         return true;
     }
 
@@ -429,10 +436,23 @@ public final class ShakenBread {
 
     // ---- all that may have been ----
 
+    private void forgetWorlds() {
+        lookedTown = NONE;
+        lookedBook = NONE;
+    }
+
     private boolean lookAtWorlds(int town, int book) {
         Town t = told.townAt(town);
         Book b = told.bookAt(book);
-        return t != null && b != null && worlds.look(t, b);
+        if (t == null || b == null) {
+            return false;
+        }
+        if (town != lookedTown || book != lookedBook) {
+            worlds.look(t, b);
+            lookedTown = town;
+            lookedBook = book;
+        }
+        return worlds.runs <= MOST_RUNS;
     }
 
     public int worlds(int town, int book, int what) {
@@ -1187,10 +1207,6 @@ public final class ShakenBread {
             return empty || (gloved >> giver & 1) != 0 ? NONE : giver;
         }
 
-        boolean eatsAt(int hour) {
-            return every > 0 && (hour + 1) % every == 0;
-        }
-
         /** Whether another one than this one is to be in the cell in the hour. */
         boolean isOtherThere(int hour, int person, int cell) {
             for (int p = 0; p < people; p++) {
@@ -1261,7 +1277,7 @@ public final class ShakenBread {
                 }
             }
             log.closeHour(hour);
-            if (plan.eatsAt(hour)) {
+            if (eatsAt(hour)) {
                 eat();
             }
             System.arraycopy(now, 0, bread, row, MOST_PEOPLE);
@@ -1890,7 +1906,6 @@ public final class ShakenBread {
 
     /** All that may have been of a town by a book. */
     private static final class Worlds {
-        private static final int MOST_RUNS = 1024;
         /** More than all of eight people can have, of 30 and 3 ounces each. */
         private static final int BREADS = 265;
 
@@ -1909,8 +1924,8 @@ public final class ShakenBread {
             trial = aTrial;
         }
 
-        /** False if there are too many runs. */
-        boolean look(Town t, Book b) {
+        /** Looks at none if there are too many runs. */
+        void look(Town t, Book b) {
             runs = 1;
             count = 0;
             danger = 0;
@@ -1918,7 +1933,7 @@ public final class ShakenBread {
                 runs *= t.extra[p] + 1;
             }
             if (runs > MOST_RUNS) {
-                return false;
+                return;
             }
             plan.lay(t);
             doomed = (1 << plan.people) - 1;
@@ -1930,7 +1945,6 @@ public final class ShakenBread {
                     addWorld();
                 }
             }
-            return true;
         }
 
         /** Of a run's number each one's extra bread is a digit. */

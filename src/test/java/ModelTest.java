@@ -1057,38 +1057,51 @@ public final class ModelTest {
         System.out.println("texts by fault: " + Arrays.toString(seen));
     }
 
+    /** Towns in which gloves are taken and taken off without an end. */
+    private static final String[] RESTLESS = {
+        "size 2 2;hours 3;law more;eat 3 2;polite 0 2;polite 1 0;plain 1 2;polite 1 1;plain 1 4;errand 1 0;errand 2 1 0;",
+        "size 2 2;hours 6;law more;eat 3 2;shy 1 2;polite 0 4;polite 1 2;polite 0 4;errand 1 1 1;errand 3 1 0;",
+        "size 2 2;hours 4;law more;eat 3 3;plain 1 3;polite 0 4;shy 1 0;shy 0 4;errand 0 0 1 1;errand 3 0 0 1;",
+    };
+
+    private static void hold(String text, Random random, boolean orders) {
+        Parsed parsed = parse(0, text);
+        ShakenBread x = new ShakenBread();
+        int wrong = c.wrong();
+        c.due("text", Check.text(x, 0, NONE, text), parsed.fault == 0 ? 0 : NONE);
+        if (parsed.fault != 0) {
+            return;
+        }
+        Past past = new Past(parsed.tale);
+        String book = bookText(random, past);
+        c.due("book", Check.text(x, 1, NONE, book), 0);
+        told(x, parsed.tale);
+        ran(x, past);
+        fates(x, past);
+        hands(x, past, random);
+        gloves(x, past);
+        if (orders) {
+            order(x, past);
+        }
+        walk(x, past, random);
+        laws(x, past);
+        loaves(x, past, random);
+        changes(x, past);
+        worlds(x, past, parse(1, book).notes, random);
+        if (c.wrong() > wrong) {
+            System.out.println("town: " + text + "\nbook: " + book);
+        }
+    }
+
     public static void main(String[] args) {
         int many = args.length > 0 ? Integer.parseInt(args[0]) : 1200;
         Random random = new Random(args.length > 1 ? Long.parseLong(args[1]) : 37);
         reading(random, many * 20);
         for (int i = 0; i < many; i++) {
-            String text = townText(random, i % 4 == 0);
-            Parsed parsed = parse(0, text);
-            ShakenBread x = new ShakenBread();
-            int wrong = c.wrong();
-            c.due("text", Check.text(x, 0, NONE, text), parsed.fault == 0 ? 0 : NONE);
-            if (parsed.fault != 0) {
-                continue;
-            }
-            Past past = new Past(parsed.tale);
-            String book = bookText(random, past);
-            c.due("book", Check.text(x, 1, NONE, book), 0);
-            told(x, parsed.tale);
-            ran(x, past);
-            fates(x, past);
-            hands(x, past, random);
-            gloves(x, past);
-            if (i % 4 == 1) {
-                order(x, past);
-            }
-            walk(x, past, random);
-            laws(x, past);
-            loaves(x, past, random);
-            changes(x, past);
-            worlds(x, past, parse(1, book).notes, random);
-            if (c.wrong() > wrong) {
-                System.out.println("town: " + text + "\nbook: " + book);
-            }
+            hold(townText(random, i % 4 == 0), random, i % 4 == 1);
+        }
+        for (String text : RESTLESS) {
+            hold(text, random, true);
         }
         c.close("ModelTest");
     }

@@ -652,6 +652,14 @@ public final class PromiseTest {
         due("one who is not there", y.worlds(0, 1, 0), 0);
         Check.text(y, 1, 1, "pocket 0 1 0;");
         due("an hour that is not there", y.worlds(0, 1, 0), 0);
+        due("an image", y.image(1), true);
+        Check.text(y, 1, 1, "");
+        due("all worlds", y.worlds(0, 1, 0), 6);
+        Check.text(y, 0, 0, "hours 1; plain 0 2; extra 0 3;");
+        due("of another town", y.worlds(0, 1, 0), 4);
+        due("again", y.again(1), true);
+        due("as it was", y.worlds(0, 1, 0), 0);
+        due("and its runs", y.worlds(0, 1, 1), 6);
         manyWorlds();
     }
 
@@ -787,6 +795,9 @@ public final class PromiseTest {
         for (int what = 0; what < none.length; what++) {
             due("no miser " + what, y.miser(0, what), none[what]);
         }
+        ShakenBread restless = Check.with("size 2 2;hours 6;law more;eat 3 2;shy 1 2;polite 0 4;polite 1 2;polite 0 4;"
+            + "errand 1 1 1;errand 3 1 0;");
+        due("more than 20 rounds", restless.miser(0, 3), NONE);
         ShakenBread z = Check.with("hours 2; law first; gloved 0 2; plain 1 3; plain 1 0;");
         int[] beside = {1, 2, 2, 2};
         for (int what = 0; what < beside.length; what++) {
