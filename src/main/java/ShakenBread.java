@@ -1141,7 +1141,7 @@ public final class ShakenBread {
                 shy |= t.manner[p] == SHY ? 1 << p : 0;
             }
             for (int p = 0; p < people; p++) {
-                open[p] = t.manner[p] == SHY ? all & ~shy : all & ~(1 << p);
+                open[p] = t.manner[p] == SHY ? all & ~shy : all;
             }
             for (int q = 0; q < t.quarrels; q++) {
                 if ((leftOut >> q & 1) == 0) {

@@ -1098,7 +1098,7 @@ public final class ModelTest {
         Random random = new Random(args.length > 1 ? Long.parseLong(args[1]) : 37);
         reading(random, many * 20);
         for (int i = 0; i < many; i++) {
-            hold(townText(random, i % 4 == 0), random, i % 4 == 1);
+            hold(townText(random, i % 4 == 0), random, i % 4 > 0);
         }
         for (String text : RESTLESS) {
             hold(text, random, true);

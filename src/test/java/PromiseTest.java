@@ -412,6 +412,8 @@ public final class PromiseTest {
         due("ranks stay", Check.with("law last; hours 1; eat 1 1; shy 0 0; shy 0 2; plain 1 0;").gloves(0), NONE);
         due("the least of several",
             Check.with("size 2 2; law first; hours 1; eat 1 1; plain 0 1; plain 0 1; plain 1 1; plain 1 1;").gloves(0), 5);
+        due("fewest ahead of least", Check.with("hours 3; eat 2 2; plain 0 2; plain 0 0; plain 2 3; plain 2 5; plain 0 2;"
+            + "errand 3 1 0;").gloves(0), 16);
         due("whoever has gloves on needs none",
             Check.with("law first; hours 1; eat 1 1; gloved 0 1; plain 0 1; plain 0 1;").gloves(0), 2);
     }
@@ -428,6 +430,9 @@ public final class PromiseTest {
         for (int what = 0; what < 4; what++) {
             due("none helps " + what, y.order(0, what), NONE);
         }
+        ShakenBread full = Check.with("size 2 2; law first; hours 1; eat 1 1; polite 0 1; plain 0 1; plain 1 1; plain 2 1;"
+            + "plain 3 1;");
+        due("no cell to be alone in", full.order(0, 0), NONE);
         // 1 has to come to 0 in the hour of the meal, or 0 to him: the first by hour and one
         ShakenBread z = Check.with("size 2 2; hours 2; eat 1 2; plain 3 2; plain 2 0;");
         int[] zWant = {0, 0, 2, 0};
@@ -452,6 +457,11 @@ public final class PromiseTest {
         due("what -1", x.walk(0, 0, 0, 1, -1), NONE);
         due("nobody", x.walk(0, 3, 0, 1, 0), NONE);
         due("hour 2", x.walk(0, 0, 2, 1, 0), NONE);
+        ShakenBread corner = Check.with("size 2 2; hours 1; law first; polite 2 3; plain 0 0; plain 3 0; plain 2 0;");
+        due("not out of the town", corner.walk(0, 0, 0, 1, 10), 0);
+        due("bread there", corner.walk(0, 0, 0, 1, 0), 2);
+        ShakenBread edge = Check.with("size 2 2; hours 1; law first; polite 1 3; plain 0 0; plain 3 0; plain 1 0;");
+        due("not over the edge", edge.walk(0, 0, 0, 1, 10), 2);
         ShakenBread y = Check.with("size 2 2; law last; hours 2; eat 0 24; plain 0 0; plain 1 3; errand 0 3;");
         due("from his own cell", y.walk(0, 0, 0, 1, 10), 1);
         due("from his errand's", y.walk(0, 0, 1, 1, 10), 0);
@@ -487,6 +497,7 @@ public final class PromiseTest {
         due("two of three", Check.with(three + "quarrel 0 1; quarrel 0 2; quarrel 1 2;").peace(0), 3);
         due("over another one", Check.with(three + "quarrel 0 1;").peace(0), 0);
         due("one", Check.with(three + "quarrel 2 1; quarrel 2 0;").peace(0), 1);
+        due("fewest ahead of least", Check.with(three + "quarrel 0 1; quarrel 0 1; quarrel 0 2;").peace(0), 4);
         due("told twice", Check.with("hours 1; plain 0 0; plain 0 0; quarrel 0 1; quarrel 1 0;").peace(0), 3);
         due("apart", Check.with("hours 1; plain 0 0; plain 1 0;").peace(0), NONE);
         due("one alone", Check.with("plain 0 0;").peace(0), 0);
@@ -633,6 +644,13 @@ public final class PromiseTest {
         due("no town", x.worlds(1, 0, 0), NONE);
         due("no book", x.worlds(0, 2, 0), NONE);
         due("pocket of nobody", x.pocket(0, 0, 2, 0, true), NONE);
+        ShakenBread later = Check.with("hours 2;" + MAYBE.replace("hours 1;", ""), "", "pocket 0 0 2;");
+        due("pocket of nobody", later.pocket(0, 0, 8, 0, true), NONE);
+        due("a town", later.worlds(0, 1, 0), 3);
+        Check.text(later, 0, NONE, "hours 1; plain 0 2; extra 0 3;");
+        due("another town", later.worlds(1, 1, 0), 1);
+        due("another book", later.worlds(1, 0, 0), 4);
+        due("the first town", later.worlds(0, 0, 0), 6);
         due("pocket of no hour", x.pocket(0, 0, 0, 1, true), NONE);
         due("pocket of no book", x.pocket(0, 2, 0, 0, true), NONE);
         ShakenBread y = Check.with(MAYBE + "eat 3 1;", "", "pocket 0 0 2; pocket 1 0 2;", "");
@@ -699,6 +717,8 @@ public final class PromiseTest {
         due("couple by couple", x.news(0, 2, 0), 1);
         due("both are one", x.news(0, 1, 1), NONE);
         due("to nobody", x.news(0, 1, 3), NONE);
+        due("to nobody", x.news(0, 1, 32), NONE);
+        due("from nobody", x.news(0, 32, 1), NONE);
         due("from nobody", x.news(0, -1, 1), NONE);
         due("never", Check.with("plain 0 0; plain 1 0;").news(0, 0, 1), NONE);
     }
@@ -750,6 +770,9 @@ public final class PromiseTest {
         ShakenBread y = Check.with("size 2 2; hours 2; eat 1 2; law first; plain 0 1; plain 1 1; polite 2 3; errand 1 1 0;");
         due("a later hour", y.wed(0, false), 1);
         due("starved then", y.wed(0, true), 0);
+        ShakenBread harm = Check.with("hours 2; eat 1 2; law first; plain 0 1; plain 1 1;");
+        due("any hour is worse than none", harm.wed(0, false), 0);
+        due("starved then", harm.wed(0, true), 1);
         ShakenBread z = Check.with("hours 3; eat 1 1; law less; plain 0 3; plain 1 2;");
         due("the first of several", z.wed(0, false), 0);
         due("starved then", z.wed(0, true), 1);
