@@ -53,6 +53,16 @@ final class Check {
         return x.text(sort, at);
     }
 
+    /** A text on a new object: its fault and its place, by which it is taken or not. */
+    void dueFault(int sort, String text, int kind, int place) {
+        ShakenBread x = new ShakenBread();
+        due("text " + text, text(x, sort, -1, text), kind == 0 ? 0 : -1);
+        due("fault 0 of " + text, x.fault(0), kind);
+        due("fault 1 of " + text, x.fault(1), place);
+        due("count after " + text, x.count(sort), kind == 0 ? 1 : 0);
+        due("tape after " + text, x.end(1), -1);
+    }
+
     /** A new object with a town, and a book if there is one. */
     static ShakenBread with(String town, String... books) {
         ShakenBread x = new ShakenBread();

@@ -1057,11 +1057,16 @@ public final class ModelTest {
         System.out.println("texts by fault: " + Arrays.toString(seen));
     }
 
-    /** Towns in which gloves are taken and taken off without an end. */
+    /** Towns in which gloves are taken and taken off without an end, for 20 rounds, for 21. */
     private static final String[] RESTLESS = {
         "size 2 2;hours 3;law more;eat 3 2;polite 0 2;polite 1 0;plain 1 2;polite 1 1;plain 1 4;errand 1 0;errand 2 1 0;",
         "size 2 2;hours 6;law more;eat 3 2;shy 1 2;polite 0 4;polite 1 2;polite 0 4;errand 1 1 1;errand 3 1 0;",
         "size 2 2;hours 4;law more;eat 3 3;plain 1 3;polite 0 4;shy 1 0;shy 0 4;errand 0 0 1 1;errand 3 0 0 1;",
+        "eat 3 6;polite 1 1;shy 1 2;plain 1 5;polite 2 2;polite 0 7;plain 1 8;shy 0 7;plain 2 1;errand 0 2;errand 1 1 0 1 1 2;"
+            + "errand 2 0 2;errand 3 0;errand 4 0 0 1 1 0;errand 6 1 1 1 1 2;errand 7 1 0 2;",
+        "eat 3 5;shy 2 1;plain 0 5;plain 1 4;shy 1 7;polite 0 0;polite 0 0;plain 1 5;shy 2 7;errand 0 0 2 2 1;errand 1 0 0 1 2;"
+            + "errand 2 0 2 0;errand 3 0 2 2 0;errand 6 2 2 0 2 1 0 2 1;errand 7 1 1 2 1 0;quarrel 2 6;quarrel 6 4;quarrel 7 5;"
+            + "quarrel 5 2;",
     };
 
     private static void hold(String text, Random random, boolean orders) {

@@ -50,15 +50,8 @@ public final class PromiseTest {
         c.close("PromiseTest");
     }
 
-    private static int fault(String text, int sort, int what) {
-        ShakenBread x = new ShakenBread();
-        Check.text(x, sort, NONE, text);
-        return x.fault(what);
-    }
-
     private static void dueFault(int sort, String text, int kind, int place) {
-        due("fault 0 of " + text, fault(text, sort, 0), kind);
-        due("fault 1 of " + text, fault(text, sort, 1), place);
+        c.dueFault(sort, text, kind, place);
     }
 
     // promise 1, 35
