@@ -1676,7 +1676,7 @@ public final class ShakenBread {
         boolean findOrder(Town t) {
             begin(t);
             keepFound(NONE, NONE, NONE, base.starved());
-            for (int h = 0; h < plan.hours; h++) {
+            for (int h = 0; found[3] > 0 && h < plan.hours; h++) {
                 for (int p = 0; p < plan.people; p++) {
                     tryCells(t, h, p);
                 }

@@ -5,6 +5,8 @@ import java.lang.reflect.Method;
 import java.lang.reflect.Modifier;
 import java.nio.file.Files;
 import java.nio.file.Path;
+import java.util.ArrayList;
+import java.util.List;
 import java.util.Random;
 import java.util.TreeSet;
 import java.util.regex.Matcher;
@@ -26,6 +28,7 @@ public final class FormTest {
     public static void main(String[] args) throws Exception {
         face();
         words();
+        sizes();
         wildCalls();
         room();
         c.close("FormTest");
@@ -93,6 +96,34 @@ public final class FormTest {
             c.due("import of " + imports.group(1), imports.group(1).equals("java.util.Arrays"), true);
         }
         c.due("signs are 1 to 127", source.chars().allMatch(sign -> sign > 0 && sign < 128), true);
+    }
+
+    /** At most seven parameters, some twenty fields, some sixty lines. */
+    private static void sizes() throws Exception {
+        List<Class<?>> all = new ArrayList<>(List.of(ShakenBread.class.getDeclaredClasses()));
+        all.add(ShakenBread.class);
+        for (Class<?> one : all) {
+            int fields = 0;
+            for (Field f : one.getDeclaredFields()) {
+                fields += Modifier.isStatic(f.getModifiers()) ? 0 : 1;
+            }
+            c.due("fields of " + one + ": " + fields, fields <= 20, true);
+            for (Method m : one.getDeclaredMethods()) {
+                c.due("parameters of " + m, m.getParameterCount() <= 7, true);
+            }
+        }
+        int start = 0;
+        List<String> lines = Files.readAllLines(Path.of("src/main/java/ShakenBread.java"));
+        for (int i = 0; i < lines.size(); i++) {
+            String line = lines.get(i);
+            if (line.matches(" {4}( {4})?\\w.*\\) \\{") && !line.matches(" *(if|for|while|switch|else|do)\\b.*")) {
+                start = i;
+            }
+            if (line.matches(" {4}( {4})?\\}") && start > 0) {
+                c.due("lines of " + lines.get(start), i - start < 60, true);
+                start = 0;
+            }
+        }
     }
 
     private static final String WIDE = "size 6 6; hours 24; eat 1 6; law first; plain 0 30; polite 0 30; shy 0 30;"

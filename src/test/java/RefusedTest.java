@@ -152,6 +152,8 @@ public final class RefusedTest {
             but(-1, 2, 3, 4, 5), but(-1, 0, 5), but(-1, 1, 9, 14, 15));
         refused("walk", there, NONE, (x, a) -> x.walk(a[0], a[1], a[2], a[3], a[4]), but(last, 0, 0, 4, 0), town, person,
             but(-1, 2, 5), but(-1, 0, 5), but(-1, 1, 2, 3, 4, 5, 9, 14));
+        refused("walk's way", there, NONE, (x, a) -> x.walk(a[0], a[1], a[2], a[3], a[4]), but(last, 0, 0, 4, 10), town, person,
+            but(-1, 2, 5), but(-1, 0, 5, 6), but(-1, 1, 9, 14));
         refused("feeds", there, NONE, (x, a) -> x.feeds(a[0], a[1] != 0), but(last, 0), town);
         refused("feeds", there, NONE, (x, a) -> x.feeds(a[0], a[1] != 0), but(last, 1), town);
         refused("peace", there, NONE, (x, a) -> x.peace(a[0]), but(last), town);
@@ -327,10 +329,16 @@ public final class RefusedTest {
                 c.due("image " + other, y.again(other), other == k);
             }
             Check.text(y, 0, NONE, TOWN);
+            Check.text(y, 1, NONE, BOOK);
+            Check.text(y, 1, NONE, BOOK);
             Check.text(y, 1, NONE, "no");
             y.feed(0, 0, 0, 0, 0);
             c.due("back", y.again(k), true);
             c.due("no towns", y.count(0), 0);
+            c.due("no town", y.town(0, 0), NONE);
+            c.due("no books", y.count(1), 0);
+            c.due("no book", y.note(0, NONE, 0), -2);
+            c.due("the first book", Check.text(y, 1, NONE, BOOK), 0);
             c.due("no fault", y.fault(0), 0);
             c.due("no place", y.fault(1), NONE);
             c.due("no tape", y.end(1), NONE);

@@ -534,6 +534,11 @@ public final class RunEdgesTest {
         }
         Check.text(last, 0, 0, "hours 1;eat 0 1;shy 0 2;");
         dueRow("nothing left of the town ahead", w -> last.worlds(0, 0, w), 1, 1, 0, 0);
+        // who has more takes from who has less: either may starve by the other one's extra ounce
+        ShakenBread other = Check.with("hours 1;eat 1 1;law less;plain 0 1;plain 0 1;extra 0 1;", "");
+        dueRow("one starves in the one world alone", w -> other.worlds(0, 0, w), 2, 2, 0, 2);
+        ShakenBread both = Check.with("hours 1;eat 1 1;law less;plain 0 1;plain 0 1;extra 0 1;extra 1 1;", "");
+        dueRow("one or the other", w -> both.worlds(0, 0, w), 4, 4, 0, 3);
         ShakenBread eight = Check.with("hours 1;eat 9 1;" + "shy 0 8;".repeat(8) + "extra 7 1;", "");
         dueRow("all bits", w -> eight.worlds(0, 0, w), 2, 2, 127, ALL);
     }

@@ -1,0 +1,157 @@
+import java.util.ArrayList;
+import java.util.List;
+import java.util.Random;
+
+/** Long runs of calls on one object: what it holds at each time is as in a new one that was told the same. */
+public final class SessionTest {
+    private static final int NONE = -1;
+    private static final Check c = new Check();
+    private static final String[][] TEXTS = {
+        {"", "law first;plain 0 3;plain 0 1;extra 0 2;", "hours 3;eat 1 1;shy 0 2;polite 0 1;extra 1 3;", "size 2 2;shy 3 9;",
+            "law 3;", "hours 25;", "shy 9 0;", "hours 5;law last;plain 1 4;plain 1 0;quarrel 0 1;extra 0 1;extra 1 1;"},
+        {"", "pocket 0 0 2;", "pocket 1 0 1;pocket 0 1 3;", "pocket 0 0 3;", "pocket 8 0 0;", "pocket", "pocket 0 2 1;"}};
+
+    /** All that is told. */
+    private static final class Held {
+        final List<List<String>> texts = List.of(new ArrayList<>(), new ArrayList<>());
+        String tape = "";
+        int fault = 0;
+        int place = NONE;
+
+        Held copy() {
+            Held h = new Held();
+            h.texts.get(0).addAll(texts.get(0));
+            h.texts.get(1).addAll(texts.get(1));
+            h.tape = tape;
+            h.fault = fault;
+            h.place = place;
+            return h;
+        }
+
+        ShakenBread anew() {
+            ShakenBread x = new ShakenBread();
+            for (int sort = 0; sort < 2; sort++) {
+                for (String text : texts.get(sort)) {
+                    Check.text(x, sort, NONE, text);
+                }
+            }
+            return x;
+        }
+    }
+
+    private static Held held = new Held();
+    private static Held[] images = new Held[3];
+
+    public static void main(String[] args) {
+        Random r = new Random(35);
+        for (int session = 0; session < 400; session++) {
+            held = new Held();
+            images = new Held[3];
+            session(new ShakenBread(), r, 400);
+        }
+        c.close("SessionTest");
+    }
+
+    private static void session(ShakenBread x, Random r, int calls) {
+        ShakenBread same = held.anew();
+        int asked = 0;
+        for (int call = 0; call < calls; ) {
+            int op = r.nextInt(8);
+            if (op < 4) {
+                call++;
+                asked++;
+                ask(x, same, r);
+            } else {
+                call += op == 4 ? tape(x, r) : op == 5 ? text(x, r) : op == 6 ? image(x, r) : end(x, r);
+            }
+            if (op == 5 || op == 6 || asked > 400) {
+                same = held.anew();
+                asked = 0;
+            }
+        }
+    }
+
+    private static void ask(ShakenBread x, ShakenBread same, Random r) {
+        int town = r.nextInt(4) - 1;
+        int book = r.nextInt(4) - 1;
+        int a = r.nextInt(4) - 1;
+        int b = r.nextInt(4) - 1;
+        switch (r.nextInt(12)) {
+            case 0: c.due("worlds", x.worlds(town, book, a), same.worlds(town, book, a)); break;
+            case 1: c.due("pocket", x.pocket(town, book, a, b, true), same.pocket(town, book, a, b, true)); break;
+            case 2: c.due("pocket", x.pocket(town, book, a, b, false), same.pocket(town, book, a, b, false)); break;
+            case 3: c.due("search", x.search(town, book, a), same.search(town, book, a)); break;
+            case 4: c.due("run", x.run(town, a + 3), same.run(town, a + 3)); break;
+            case 5: c.due("town", x.town(town, a + 2), same.town(town, a + 2)); break;
+            case 6: c.due("note", x.note(book, a, b), same.note(book, a, b)); break;
+            case 7: c.due("person", x.person(town, a, b), same.person(town, a, b)); break;
+            case 8: c.due("walk", x.walk(town, a, b, 1, 0), same.walk(town, a, b, 1, 0)); break;
+            case 9: c.due("peace", x.peace(town), same.peace(town)); break;
+            case 10: c.due("fault", x.fault(a), a == 0 ? held.fault : a == 1 ? held.place : NONE); break;
+            default: c.due("count", x.count(a), a < 0 || a > 1 ? -2 : held.texts.get(a).size()); break;
+        }
+    }
+
+    /** Twenty bytes of a text, or blanks. */
+    private static int tape(ShakenBread x, Random r) {
+        String[] of = TEXTS[r.nextInt(2)];
+        String text = (of[r.nextInt(of.length)] + " ".repeat(20)).substring(0, 20);
+        int[] n = new int[5];
+        for (int i = 0; i < 20; i++) {
+            n[i / 4] = n[i / 4] << 8 | text.charAt(i);
+        }
+        boolean fits = held.tape.length() <= 580;
+        held.tape += fits ? text : "";
+        c.due("feed", x.feed(n[0], n[1], n[2], n[3], n[4]), fits ? held.tape.length() : NONE);
+        return 1;
+    }
+
+    private static int end(ShakenBread x, Random r) {
+        int n = r.nextInt(4) == 0 ? r.nextInt(25) - 2 : held.tape.length();
+        boolean can = n >= 0 && n <= held.tape.length();
+        held.tape = can ? held.tape.substring(0, n) : held.tape;
+        c.due("end", x.end(n), can ? n : NONE);
+        return 1;
+    }
+
+    private static int text(ShakenBread x, Random r) {
+        int sort = r.nextInt(9) == 0 ? 2 : r.nextInt(2);
+        int at = r.nextInt(4) - 1;
+        if (r.nextInt(4) > 0 && sort < 2) {
+            held.tape = TEXTS[sort][r.nextInt(TEXTS[sort].length)];
+            Check.tape(x, held.tape.getBytes());
+        }
+        int there = sort < 2 ? held.texts.get(sort).size() : 0;
+        boolean none = sort == 2 || (at == NONE ? there == 2 : at >= there);
+        ShakenBread reader = new ShakenBread();
+        int read = none ? -2 : Check.text(reader, sort, NONE, held.tape);
+        held.fault = none ? 0 : reader.fault(0);
+        held.place = none ? NONE : reader.fault(1);
+        int number = read < 0 ? read : at == NONE ? there : at;
+        if (read == 0 && at == NONE) {
+            held.texts.get(sort).add(held.tape);
+        } else if (read == 0) {
+            held.texts.get(sort).set(at, held.tape);
+        }
+        held.tape = "";
+        c.due("text", x.text(sort, at), number);
+        return 10;
+    }
+
+    private static int image(ShakenBread x, Random r) {
+        int k = r.nextInt(5) - 1;
+        boolean can = k >= 0 && k < 3;
+        if (r.nextBoolean()) {
+            c.due("image", x.image(k), can);
+            if (can) {
+                images[k] = held.copy();
+            }
+        } else {
+            c.due("again", x.again(k), can && images[k] != null);
+            if (can && images[k] != null) {
+                held = images[k].copy();
+            }
+        }
+        return 1;
+    }
+}
