@@ -261,6 +261,9 @@ public final class RunEdgesTest {
         // alone in any of three cells each of them keeps his ounce: the first is cell 0 but for his own
         ShakenBread cells = Check.with(TWO_BY_TWO + "hours 1;eat 1 1;law first;plain 3 1;plain 3 1;");
         dueRow("the first of several cells", w -> cells.order(0, w), 0, 0, 0, 0);
+        // 0 has two ounces and gives to all: not to come to 1 and 2, but 1 to him, behind two cells where he is alone
+        ShakenBread behind = Check.with(TWO_BY_TWO + "hours 1;eat 1 1;law first;plain 3 2;plain 0 0;gloved 0 1;");
+        dueRow("to one behind empty cells", w -> behind.order(0, w), 0, 1, 3, 0);
         ShakenBread late = Check.with(TWO_BY_TWO + "hours 24;eat 1 24;law first;plain 0 1;plain 1 1;"
             + "errand 1 1 1 1 1 1 1 1 1 1 1 1 0;");
         // they meet from hour 11 on: 0 gives his ounce then, or has given it
@@ -696,6 +699,9 @@ public final class RunEdgesTest {
         dueRow("not above 0", w -> none.miser(0, w), NONE, 0, 0, 1);
         ShakenBread gloved = Check.with("hours 24;eat 0 1;law first;" + "gloved 0 30;".repeat(8));
         dueRow("all gloved by manner", w -> gloved.miser(0, w), NONE, 0, 0, 1);
+        // without gloves 0 would give one away and starve with the other one; by manner he can't take them off
+        ShakenBread never = Check.with("hours 2;eat 2 1;law last;gloved 1 2;polite 1 1;");
+        dueRow("gloves by manner stay", w -> never.miser(0, w), NONE, 0, 0, 1);
         ShakenBread eight = Check.with("hours 1;eat 0 1;law last;" + "gloved 0 0;".repeat(7) + "plain 0 7;");
         dueRow("the eighth of seven gloved", w -> eight.miser(0, w), 7, 7, 128, 2);
     }

@@ -53,10 +53,14 @@ public final class SessionTest {
     }
 
     private static void session(ShakenBread x, Random r, int calls) {
+        int call = 0;
+        while (call < 60) {
+            call += text(x, r);
+        }
         ShakenBread same = held.anew();
         int asked = 0;
-        for (int call = 0; call < calls; ) {
-            int op = r.nextInt(8);
+        while (call < calls) {
+            int op = r.nextInt(12) > 0 ? r.nextInt(5) : 5 + r.nextInt(3);
             if (op < 4) {
                 call++;
                 asked++;
@@ -71,11 +75,16 @@ public final class SessionTest {
         }
     }
 
+    /** Mostly a number that is there. */
+    private static int some(Random r) {
+        return r.nextInt(4) == 0 ? r.nextInt(5) - 1 : r.nextInt(2);
+    }
+
     private static void ask(ShakenBread x, ShakenBread same, Random r) {
-        int town = r.nextInt(4) - 1;
-        int book = r.nextInt(4) - 1;
-        int a = r.nextInt(4) - 1;
-        int b = r.nextInt(4) - 1;
+        int town = some(r);
+        int book = some(r);
+        int a = some(r);
+        int b = some(r);
         switch (r.nextInt(12)) {
             case 0: c.due("worlds", x.worlds(town, book, a), same.worlds(town, book, a)); break;
             case 1: c.due("pocket", x.pocket(town, book, a, b, true), same.pocket(town, book, a, b, true)); break;
@@ -116,7 +125,7 @@ public final class SessionTest {
 
     private static int text(ShakenBread x, Random r) {
         int sort = r.nextInt(9) == 0 ? 2 : r.nextInt(2);
-        int at = r.nextInt(4) - 1;
+        int at = r.nextInt(3) == 0 ? NONE : some(r);
         if (r.nextInt(4) > 0 && sort < 2) {
             held.tape = TEXTS[sort][r.nextInt(TEXTS[sort].length)];
             Check.tape(x, held.tape.getBytes());
@@ -139,7 +148,7 @@ public final class SessionTest {
     }
 
     private static int image(ShakenBread x, Random r) {
-        int k = r.nextInt(5) - 1;
+        int k = some(r);
         boolean can = k >= 0 && k < 3;
         if (r.nextBoolean()) {
             c.due("image", x.image(k), can);

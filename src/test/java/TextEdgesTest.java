@@ -181,6 +181,11 @@ public final class TextEdgesTest {
         c.dueFault(BOOK, "pocket 0 0 099;", 1, 11);
         c.dueFault(TOWN, "errand 0 0 000;", 1, 11);
         c.dueFault(TOWN, "errand 000 0;", 1, 7);
+        c.dueFault(TOWN, "lawmore;", 1, 0);
+        c.dueFault(TOWN, "size33;", 1, 6);
+        c.dueFault(TOWN, "size 3 3;;", 1, 9);
+        c.dueFault(TOWN, "size3 3;law\nless;shy8 30;hours24;", 0, NONE);
+        c.dueFault(TOWN, "hours12shy 0 0;", 1, 7);
         c.due("two digits", Check.with("hours 09;").town(0, 3), 9);
         c.due("two digits", Check.with("hours 10;").town(0, 3), 10);
         c.due("two digits", Check.with("hours 24;").town(0, 3), 24);
