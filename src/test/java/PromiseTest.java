@@ -12,6 +12,7 @@ public final class PromiseTest {
     }
 
     public static void main(String[] args) {
+        asInReadme();
         newObject();
         tape();
         texts();
@@ -52,6 +53,29 @@ public final class PromiseTest {
 
     private static void dueFault(int sort, String text, int kind, int place) {
         c.dueFault(sort, text, kind, place);
+    }
+
+    /** The session that README.md shows. */
+    private static void asInReadme() {
+        ShakenBread bread = new ShakenBread();
+        Check.tape(bread, ("size 2 2; law first; hours 3; eat 2 3; plain 0 2; polite 0 3; shy 1 1; errand 1 0 1 3;"
+            + " extra 2 2;").getBytes());
+        int town = bread.text(0, ShakenBread.NONE);
+        due("town", town, 0);
+        due("bread behind hour 0", bread.at(town, 0, 0, 1), 3);
+        due("starved", bread.run(town, 0), 1);
+        due("fate", bread.fate(town, 1, 0), 2);
+        due("ordered to", bread.order(town, 2), 2);
+        due("who is ordered", bread.order(town, 1), 0);
+        due("starved by the order", bread.order(town, 3), 0);
+        Check.tape(bread, "pocket 2 0 2;".getBytes());
+        int book = bread.text(1, ShakenBread.NONE);
+        due("book", book, 0);
+        due("worlds", bread.worlds(town, book, 0), 1);
+        due("runs", bread.worlds(town, book, 1), 3);
+        due("pocket", bread.pocket(town, book, 2, 2, true), 1);
+        due("image", bread.image(0), true);
+        due("again", bread.again(0), true);
     }
 
     // promise 1, 35
