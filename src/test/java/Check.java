@@ -72,4 +72,52 @@ final class Check {
         }
         return x;
     }
+
+    /** How many methods there are for call: feed, end and text, the questions, image and again. */
+    static final int METHODS = 36;
+    static final int FIRST_QUESTION = 3;
+    static final int LAST_QUESTION = 33;
+
+    /** Any method by any numbers. */
+    static long call(ShakenBread x, int method, int a, int b, int d, int e, int f) {
+        boolean yes = (f & 1) != 0;
+        switch (method) {
+            case 0: return x.feed(a, b, d, e, f);
+            case 1: return x.end(a);
+            case 2: return x.text(a, b);
+            case 3: return x.fault(a);
+            case 4: return x.town(a, b);
+            case 5: return x.person(a, b, d);
+            case 6: return x.note(a, b, d);
+            case 7: return x.at(a, b, d, e);
+            case 8: return x.hour(a, b, d);
+            case 9: return x.run(a, b);
+            case 10: return x.fate(a, b, d);
+            case 11: return x.gloves(a);
+            case 12: return x.order(a, b);
+            case 13: return x.walk(a, b, d, e, f);
+            case 14: return x.feeds(a, yes);
+            case 15: return x.peace(a);
+            case 16: return x.loaf(a, b, d, e, f);
+            case 17: return x.wedding(a, b, d, e);
+            case 18: return x.stays(a, b, d);
+            case 19: return x.painted(a, b, d, e);
+            case 20: return x.fever(a, b, d, e);
+            case 21: return x.drawn(a, b, d, e);
+            case 22: return x.worlds(a, b, d);
+            case 23: return x.pocket(a, b, d, e, yes);
+            case 24: return x.search(a, b, d);
+            case 25: return x.news(a, b, d);
+            case 26: return x.aid(a, b);
+            case 27: return x.hunger(a, yes);
+            case 28: return x.swap(a, b);
+            case 29: return x.wed(a, yes);
+            case 30: return x.tunnel(a, b, d, yes);
+            case 31: return x.richest(a, b);
+            case 32: return x.miser(a, b);
+            case 33: return x.count(a);
+            case 34: return x.image(a) ? 1 : 0;
+            default: return x.again(a) ? 1 : 0;
+        }
+    }
 }

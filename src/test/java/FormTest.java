@@ -115,49 +115,6 @@ public final class FormTest {
         + "extra 4 3; quarrel 0 1; quarrel 1 2; errand 7 1 2 3 4 5 6 7 8 9 10 11 0; errand 6 1 0;";
     private static final String NOTES = "pocket 0 0 30; pocket 7 23 99;";
 
-    /** Any method by any numbers. */
-    private static long call(ShakenBread x, int method, int a, int b, int d, int e, int f) {
-        boolean yes = (f & 1) != 0;
-        switch (method) {
-            case 0: return x.feed(a, b, d, e, f);
-            case 1: return x.end(a);
-            case 2: return x.text(a, b);
-            case 3: return x.fault(a);
-            case 4: return x.town(a, b);
-            case 5: return x.person(a, b, d);
-            case 6: return x.note(a, b, d);
-            case 7: return x.at(a, b, d, e);
-            case 8: return x.hour(a, b, d);
-            case 9: return x.run(a, b);
-            case 10: return x.fate(a, b, d);
-            case 11: return x.gloves(a);
-            case 12: return x.order(a, b);
-            case 13: return x.walk(a, b, d, e, f);
-            case 14: return x.feeds(a, yes);
-            case 15: return x.peace(a);
-            case 16: return x.loaf(a, b, d, e, f);
-            case 17: return x.wedding(a, b, d, e);
-            case 18: return x.stays(a, b, d);
-            case 19: return x.painted(a, b, d, e);
-            case 20: return x.fever(a, b, d, e);
-            case 21: return x.drawn(a, b, d, e);
-            case 22: return x.worlds(a, b, d);
-            case 23: return x.pocket(a, b, d, e, yes);
-            case 24: return x.search(a, b, d);
-            case 25: return x.news(a, b, d);
-            case 26: return x.aid(a, b);
-            case 27: return x.hunger(a, yes);
-            case 28: return x.swap(a, b);
-            case 29: return x.wed(a, yes);
-            case 30: return x.tunnel(a, b, d, yes);
-            case 31: return x.richest(a, b);
-            case 32: return x.miser(a, b);
-            case 33: return x.count(a);
-            case 34: return x.image(a) ? 1 : 0;
-            default: return x.again(a) ? 1 : 0;
-        }
-    }
-
     private static int wild(Random r) {
         int[] edges = {Integer.MIN_VALUE, Integer.MAX_VALUE, -1000, -2, -1, 24, 25, 30, 31, 36, 600, 1 << 30};
         return r.nextInt(8) == 0 ? edges[r.nextInt(edges.length)] : r.nextInt(r.nextInt(3) == 0 ? 24 : 3);
@@ -170,7 +127,7 @@ public final class FormTest {
         for (int run = 0; run < 60; run++) {
             ShakenBread x = run % 3 == 0 ? new ShakenBread() : Check.with(run % 3 == 1 ? WIDE : "", NOTES, "");
             for (int i = 0; i < 500; i++) {
-                sum += call(x, r.nextInt(36), wild(r), wild(r), wild(r), wild(r), wild(r));
+                sum += Check.call(x, r.nextInt(Check.METHODS), wild(r), wild(r), wild(r), wild(r), wild(r));
             }
         }
         c.due("wild calls came to an end", sum != 1, true);
@@ -185,9 +142,9 @@ public final class FormTest {
         long none = threads.getThreadAllocatedBytes(thread);
         none = threads.getThreadAllocatedBytes(thread);
         long ahead = threads.getThreadAllocatedBytes(thread);
-        for (int method = 0; method < 36; method++) {
-            call(x, method, 0, 0, 0, 1, 0);
-            call(x, method, 0, 1, 1, 1, 11);
+        for (int method = 0; method < Check.METHODS; method++) {
+            Check.call(x, method, 0, 0, 0, 1, 0);
+            Check.call(x, method, 0, 1, 1, 1, 11);
         }
         long behind = threads.getThreadAllocatedBytes(thread);
         c.due("bytes made by calls: " + (behind - ahead - (ahead - none)), behind - ahead < 4096, true);

@@ -300,6 +300,38 @@ public final class RunEdgesTest {
         ShakenBread other = Check.with(TWO_BY_TWO + "hours 1;eat 0 24;law last;plain 1 0;plain 2 9;");
         due("not around the east", other.walk(0, 0, 0, 1, 0), 0);
         fromWhere();
+        for (int m = 1; m <= 4; m++) {
+            for (int number = 0; number < Math.pow(5, m); number++) {
+                walkBeside(m, number, 14);
+                walkBeside(m, number, 21);
+            }
+        }
+    }
+
+    /** Each walk in the town, by one who goes just so, and has an ounce for him in each hour. */
+    private static void walkBeside(int m, int number, int start) {
+        int[] ways = new int[m];
+        int rest = number;
+        for (int i = m - 1; i >= 0; i--) {
+            ways[i] = rest % 5;
+            rest /= 5;
+        }
+        StringBuilder errand = new StringBuilder("errand 1");
+        int column = start % 6;
+        int row = start / 6;
+        for (int way : ways) {
+            column += way == 1 ? 1 : way == 3 ? -1 : 0;
+            row += way == 2 ? 1 : way == 0 ? -1 : 0;
+            if (row < 0 || row > 5 || column < 0 || column > 5) {
+                return;
+            }
+            errand.append(' ').append(row * 6 + column);
+        }
+        ShakenBread x = Check.with("size 6 6;hours " + m + ";eat 0 1;law last;plain " + start + " 0;plain 0 9;" + errand + ";");
+        due("bread of walk " + number + " by " + m, x.walk(0, 0, 0, m, 0), m);
+        for (int i = 0; i < m; i++) {
+            due("way " + i + " of walk " + number + " by " + m, x.walk(0, 0, 0, m, 10 + i), ways[i]);
+        }
     }
 
     /** Ahead of hour 0 he is in his own cell, ahead of a later one where his errand has him; behind it he is by errand again. */
@@ -432,6 +464,12 @@ public final class RunEdgesTest {
         ShakenBread late = Check.with("hours 24;eat 1 24;shy 0 2;");
         due("no bite by 22", late.painted(0, 0, 22, 1), NONE);
         due("bite in 23", late.painted(0, 0, 23, 1), 23);
+        // 5 comes in hour 11 and gives 7 an ounce an hour; 6 has less than 7 in the last hour only, in the last of 582 shakes
+        ShakenBread full = Check.with("hours 24;eat 0 1;law less;plain 4 0;plain 4 0;plain 4 0;plain 4 0;plain 4 0;plain 5 13;"
+            + "plain 4 26;gloved 4 14;errand 5 5 5 5 5 5 5 5 5 5 5 5 4;quarrel 5 6;");
+        due("582 shakes", full.run(0, 2), 21 * 11 + 27 * 13);
+        due("with him alone", full.painted(0, 6, 22, 0), 64);
+        due("on by the last shake", full.painted(0, 6, 23, 0), 64 + 128);
         ShakenBread gone = Check.with("hours 2;eat 1 1;law first;plain 0 1;plain 0 0;");
         due("who gave it away starves, the other one bites", gone.painted(0, 0, 0, 1), 0);
         due("eaten up", gone.painted(0, 0, 0, 0), 0);

@@ -8,7 +8,9 @@ public final class SessionTest {
     private static final Check c = new Check();
     private static final String[][] TEXTS = {
         {"", "law first;plain 0 3;plain 0 1;extra 0 2;", "hours 3;eat 1 1;shy 0 2;polite 0 1;extra 1 3;", "size 2 2;shy 3 9;",
-            "law 3;", "hours 25;", "shy 9 0;", "hours 5;law last;plain 1 4;plain 1 0;quarrel 0 1;extra 0 1;extra 1 1;"},
+            "law 3;", "hours 25;", "shy 9 0;", "hours 5;law last;plain 1 4;plain 1 0;quarrel 0 1;extra 0 1;extra 1 1;",
+            "hours 24;eat 1 9;plain 0 30;polite 0 3;shy 0 9;gloved 0 9;plain 0 9;plain 0 9;plain 0 9;plain 1 9;extra 6 1;",
+            "hours 2;eat 0 1;plain 0 1;plain 0 2;shy 0 3;", "hours 1;eat 2 1;plain 2 3;shy 2 1;gloved 2 2;extra 1 3;"},
         {"", "pocket 0 0 2;", "pocket 1 0 1;pocket 0 1 3;", "pocket 0 0 3;", "pocket 8 0 0;", "pocket", "pocket 0 2 1;"}};
 
     /** All that is told. */
@@ -80,24 +82,25 @@ public final class SessionTest {
         return r.nextInt(4) == 0 ? r.nextInt(5) - 1 : r.nextInt(2);
     }
 
+    /** Mostly some, or another hour, seed or what. */
+    private static int any(Random r) {
+        return r.nextInt(4) > 0 ? some(r) : r.nextInt(24);
+    }
+
+    /** Any question: what was asked ahead of it, of whichever town, makes no difference. */
     private static void ask(ShakenBread x, ShakenBread same, Random r) {
-        int town = some(r);
-        int book = some(r);
         int a = some(r);
-        int b = some(r);
-        switch (r.nextInt(12)) {
-            case 0: c.due("worlds", x.worlds(town, book, a), same.worlds(town, book, a)); break;
-            case 1: c.due("pocket", x.pocket(town, book, a, b, true), same.pocket(town, book, a, b, true)); break;
-            case 2: c.due("pocket", x.pocket(town, book, a, b, false), same.pocket(town, book, a, b, false)); break;
-            case 3: c.due("search", x.search(town, book, a), same.search(town, book, a)); break;
-            case 4: c.due("run", x.run(town, a + 3), same.run(town, a + 3)); break;
-            case 5: c.due("town", x.town(town, a + 2), same.town(town, a + 2)); break;
-            case 6: c.due("note", x.note(book, a, b), same.note(book, a, b)); break;
-            case 7: c.due("person", x.person(town, a, b), same.person(town, a, b)); break;
-            case 8: c.due("walk", x.walk(town, a, b, 1, 0), same.walk(town, a, b, 1, 0)); break;
-            case 9: c.due("peace", x.peace(town), same.peace(town)); break;
-            case 10: c.due("fault", x.fault(a), a == 0 ? held.fault : a == 1 ? held.place : NONE); break;
-            default: c.due("count", x.count(a), a < 0 || a > 1 ? -2 : held.texts.get(a).size()); break;
+        int b = any(r);
+        int d = any(r);
+        int e = any(r);
+        int f = any(r);
+        int method = Check.FIRST_QUESTION + r.nextInt(Check.LAST_QUESTION - Check.FIRST_QUESTION + 1);
+        String call = "question " + method + " " + a + " " + b + " " + d + " " + e + " " + f;
+        long got = Check.call(x, method, a, b, d, e, f);
+        if (method == Check.FIRST_QUESTION) {
+            c.due("fault " + a, got, a == 0 ? held.fault : a == 1 ? held.place : NONE);
+        } else {
+            c.due(call, got, Check.call(same, method, a, b, d, e, f));
         }
     }
 

@@ -27,6 +27,7 @@ public final class TextEdgesTest {
         thereOrNot();
         fullTown();
         fullBook();
+        fullOverAndOver();
         wrongTokens();
         laterOnes();
         furtherOnes();
@@ -395,6 +396,33 @@ public final class TextEdgesTest {
             c.due("hour", x.note(0, k, 1), 16 + k);
             c.due("bread", x.note(0, k, 2), 92 + k);
         }
+    }
+
+    /** One too many is counted in one text alone, whatever the texts ahead have told. */
+    private static void fullOverAndOver() {
+        String[][] full = {{repeat("shy 0 0;", 8), "shy 0 0;"},
+            {"shy 0 0;shy 0 0;" + repeat("quarrel 0 1;", 6), "quarrel 0 1;"},
+            {"shy 0 0;errand 0 0 1 2 3 4 5 6 7 8 0 1 2;", "errand 0 0 1 2 3 4 5 6 7 8 0 1 2 3;"},
+            {repeat("pocket 0 0 0;", 8), "pocket 0 0 0;"}};
+        for (int i = 0; i < full.length; i++) {
+            int sort = i < 3 ? TOWN : BOOK;
+            ShakenBread x = new ShakenBread();
+            c.due("the first", Check.text(x, sort, NONE, full[i][0]), 0);
+            for (int again = 0; again < 3; again++) {
+                c.due("full again: " + full[i][0], Check.text(x, sort, 0, full[i][0]), 0);
+                c.due("no fault", x.fault(0), 0);
+                c.due("one too many", Check.text(x, sort, 0, full[i][0] + full[i][1]), NONE);
+                c.due("one too many", x.fault(0), 3);
+                c.due("full with a wrong end", Check.text(x, sort, 0, full[i][0] + "x"), NONE);
+                c.due("full with a wrong end", x.fault(0), 1);
+            }
+            c.due("as many as ahead", sort == TOWN ? x.town(0, 6) : x.note(0, NONE, 0), new int[] {8, 2, 1, 8}[i]);
+        }
+        ShakenBread x = Check.with("shy 0 0;");
+        c.due("one who was told of ahead", Check.text(x, TOWN, 0, "shy 8 0;size 2 2;"), NONE);
+        c.due("extra for one of a text ahead", Check.text(x, TOWN, 0, repeat("shy 0 0;", 8) + "extra 7 0;x"), NONE);
+        c.due("none of them is told of now", Check.text(x, TOWN, 0, "shy 3 0;size 2 2;"), 0);
+        c.due("no fault", x.fault(0), 0);
     }
 
     // ---- FAULT 1 ----
