@@ -268,6 +268,11 @@ public final class RunEdgesTest {
             + "errand 1 1 1 1 1 1 1 1 1 1 1 1 0;");
         // they meet from hour 11 on: 0 gives his ounce then, or has given it
         dueRow("no single hour helps", w -> late.order(0, w), NONE, NONE, NONE, NONE);
+        // 0 would give his ounce to 1 in cell 8, or to 2 in cell 0, where 2 comes in the last hour only; cell 1 is empty then
+        String ten = " 4 4 4 4 4 4 4 4 4 4";
+        ShakenBread hide = Check.with("hours 12;eat 1 12;law first;plain 4 1;plain 5 1;gloved 3 5;errand 0" + ten + " 4 8;"
+            + "errand 1" + ten.replace('4', '5') + " 5 8;errand 2" + ten.replace('4', '3') + " 3 0;");
+        dueRow("in the last of more hours than people", w -> hide.order(0, w), 11, 0, 1, 0);
     }
 
     private static void walk() {
@@ -572,6 +577,10 @@ public final class RunEdgesTest {
         for (String missing : new String[] {"pocket 3 0 0;", "pocket 7 0 0;", "pocket 0 2 0;", "pocket 0 23 0;"}) {
             Check.text(last, 1, 1, missing);
             dueRow(missing, w -> last.worlds(0, 1, w), 0, 4, NONE, NONE);
+            Check.text(last, 1, 1, "pocket 0 0 0;" + missing);
+            dueRow("behind one that is so " + missing, w -> last.worlds(0, 1, w), 0, 4, NONE, NONE);
+            Check.text(last, 1, 1, missing + "pocket 0 0 0;");
+            dueRow("ahead of one that is so " + missing, w -> last.worlds(0, 1, w), 0, 4, NONE, NONE);
         }
         Check.text(last, 0, 0, "hours 1;eat 0 1;shy 0 2;");
         dueRow("nothing left of the town ahead", w -> last.worlds(0, 0, w), 1, 1, 0, 0);

@@ -5,6 +5,8 @@ import java.util.Random;
 /** Long runs of calls on one object: what it holds at each time is as in a new one that was told the same. */
 public final class SessionTest {
     private static final int NONE = -1;
+    /** The first of the three questions of Check.call() that take a TOWN and a BOOK. */
+    private static final int BY_BOOK = 22;
     private static final Check c = new Check();
     private static final String[][] TEXTS = {
         {"", "law first;plain 0 3;plain 0 1;extra 0 2;", "hours 3;eat 1 1;shy 0 2;polite 0 1;extra 1 3;", "size 2 2;shy 3 9;",
@@ -51,7 +53,30 @@ public final class SessionTest {
             images = new Held[3];
             session(new ShakenBread(), r, 400);
         }
+        secondOnes(r);
         c.close("SessionTest");
+    }
+
+    /** The second TOWN by the second BOOK answers like an only one by an only one. */
+    private static void secondOnes(Random r) {
+        for (int i = 0; i < TEXTS[0].length * TEXTS[0].length; i++) {
+            String first = TEXTS[0][i / TEXTS[0].length];
+            String second = TEXTS[0][i % TEXTS[0].length];
+            String book = TEXTS[1][r.nextInt(TEXTS[1].length)];
+            ShakenBread one = Check.with(second, book);
+            ShakenBread two = Check.with(first, TEXTS[1][r.nextInt(4)], book);
+            Check.text(two, 0, NONE, second);
+            for (int k = 0; k < 500 && one.count(0) + one.count(1) == 2 && two.count(0) + two.count(1) == 4; k++) {
+                int method = Check.FIRST_QUESTION + 1 + r.nextInt(Check.LAST_QUESTION - Check.FIRST_QUESTION - 1);
+                boolean byBook = method == BY_BOOK || method == BY_BOOK + 1 || method == BY_BOOK + 2;
+                int b = any(r);
+                int d = any(r);
+                int e = any(r);
+                int f = any(r);
+                c.due("the second of " + method + " " + b + " " + d + " " + e + " " + f,
+                    Check.call(two, method, 1, byBook ? 1 : b, d, e, f), Check.call(one, method, 0, byBook ? 0 : b, d, e, f));
+            }
+        }
     }
 
     private static void session(ShakenBread x, Random r, int calls) {

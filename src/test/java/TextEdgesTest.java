@@ -512,6 +512,28 @@ public final class TextEdgesTest {
         Check.text(x, BOOK, NONE, "pocket 0 0 0;");
         Check.text(x, BOOK, 0, "");
         c.due("no notes left", x.note(0, NONE, 0), 0);
+        eachOfTheLater();
+    }
+
+    /** Of each of eight: his extra and his errand, whichever is told first, and nothing of them behind another text. */
+    private static void eachOfTheLater() {
+        String eight = repeat("shy 0 0;", 8);
+        for (int p = 0; p < 8; p++) {
+            ShakenBread x = Check.with(eight + "extra " + p + " 2;errand " + p + " 1 2;");
+            ShakenBread y = Check.with("errand " + p + " 1 2;extra " + p + " 2;" + eight);
+            for (int q = 0; q < 8; q++) {
+                c.due("extra of " + q, x.person(0, q, 3), q == p ? 2 : 0);
+                c.due("steps of " + q, x.person(0, q, 4), q == p ? 2 : 0);
+                c.due("extra of " + q, y.person(0, q, 3), q == p ? 2 : 0);
+                c.due("steps of " + q, y.person(0, q, 4), q == p ? 2 : 0);
+            }
+            Check.text(x, TOWN, 0, eight);
+            Check.text(y, TOWN, NONE, eight);
+            for (int q = 0; q < 8; q++) {
+                c.due("no extra left of " + q, x.person(0, q, 3) + y.person(1, q, 3), 0);
+                c.due("no steps left of " + q, x.person(0, q, 4) + y.person(1, q, 4), 0);
+            }
+        }
     }
 
     private static void furtherOnes() {
